@@ -5,6 +5,7 @@ public final class CloseOutTest {
         goesLayerByLayer();
         asksTheLeastBidderOfTheLive();
         paysForUnitsWithoutSign();
+        paysGreatBids();
         givesEachInstrumentToItsOwnTaker();
         callsCashAfterTheBids();
         callsNoCashBelowZero();
@@ -116,6 +117,17 @@ public final class CloseOutTest {
         Check.answers("the defaulter's cash", 27, house.told(1, 1));
         Check.answers("the taker's units", 0, house.position(0, 0));
         Check.answers("units open", 0, house.all(5));
+    }
+
+    private static void paysGreatBids() {
+        MarginHouse house = Houses.withMembers(0, 0);
+        house.instrument(100, 1000000, 0);
+        Houses.tradeMany(house, 1, 0, 0, 1_000_000, 100);
+        house.move(0, 0, -1);
+        house.declare();
+        house.bid(0, 0, 1000000);
+        Check.answers("closeOut(1)", Houses.MOST_PAID, house.closeOut(1));
+        Check.answers("the taker's cash", Houses.MOST_PAID, house.told(0, 1));
     }
 
     private static void givesEachInstrumentToItsOwnTaker() {

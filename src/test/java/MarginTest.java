@@ -36,7 +36,9 @@ public final class MarginTest {
         house.trade(0, 1, 0, 5, 100);
         Check.answers("at the limit", 0, house.margin(0));
         Check.answers("at the limit, sold", 0, house.margin(1));
-        house.trade(0, 1, 0, 2, 100);
+        house.trade(0, 1, 0, 1, 100);
+        Check.answers("one above the limit", 7, house.margin(0));
+        house.trade(0, 1, 0, 1, 100);
         Check.answers("two above the limit", 14, house.margin(0));
         Check.answers("two above the limit, sold", 14, house.margin(1));
         house.trade(1, 0, 1, 3, 100);

@@ -7,6 +7,7 @@ public final class SharesTest {
         greatestRemaindersComeFirst();
         weightsOfZeroBearNothing();
         onlyLiveOnesBear();
+        membersAheadOfTheDefaulterBear();
         productsBeyondALong();
         callsAreSharedByWhatCanBeCalled();
         Check.end();
@@ -91,6 +92,27 @@ public final class SharesTest {
         Check.answers("2 bore nothing", 9, house.told(2, 2));
         Check.answers("3 bore half", 6, house.told(3, 2));
         Check.answers("4 bore half", 6, house.told(4, 2));
+    }
+
+    private static void membersAheadOfTheDefaulterBear() {
+        MarginHouse house = Houses.withMembers(7, 8, 0, 0);
+        house.instrument(0, 0, 0);
+        house.deposit(0, 5);
+        house.deposit(1, 6);
+        house.trade(2, 3, 0, 1, 4);
+        house.declare();
+        // 28/15 and 32/15 leave 13 and 2
+        Check.answers("closeOut(2)", 0, house.closeOut(2));
+        Check.answers("contribution of 0", 7 - 2, house.told(0, 2));
+        Check.answers("contribution of 1", 8 - 2, house.told(1, 2));
+        house.member(0);
+        house.trade(4, 3, 0, 1, 20);
+        house.declare();
+        // 9 of 5 and 6: 45/11 and 54/11 leave 1 and 10
+        Check.answers("closeOut(4)", 0, house.closeOut(4));
+        Check.answers("bore(2)", 11, house.bore(2));
+        Check.answers("cash of 0", 5 - 4, house.told(0, 1));
+        Check.answers("cash of 1", 6 - 5, house.told(1, 1));
     }
 
     private static void productsBeyondALong() {
