@@ -1,72 +1,111 @@
 /** Promise 6: bid. */
 public final class BidTest {
+    private static final int MILLION = Edges.MILLION;
+
     public static void main(String[] args) {
-        decidesWhoTakesAndForWhat();
+        isZeroAtFirst();
+        isOfEachMemberForEachInstrument();
+        isToldAnew();
         takesTheEdges();
         isFreeToThoseThatAreNotLive();
-        refusesWrongOnes();
+        refusesOtherMembers();
+        refusesOtherInstruments();
+        refusesOtherBids();
         Check.end();
     }
 
-    /** Member 0 is in default with 4 units of each of two instruments, bought from member 3; 1 and 2 have none. */
-    private static MarginHouse houseWithDefaulter() {
-        MarginHouse house = Houses.withMembers(0, 0, 0, 0);
-        house.instrument(10, 1000, 0);
-        house.instrument(10, 1000, 0);
-        house.deposit(3, 1000);
-        house.deposit(0, 30);
-        house.trade(0, 3, 0, 4, 10);
-        house.trade(0, 3, 1, 4, 10);
-        house.move(0, 0, -8);
-        house.declare();
-        return house;
+    private static void isZeroAtFirst() {
+        House house = Houses.withOneInDefault();
+        house.bid(1, 0, 1);
+        Check.answers("closeOut(0)", 0, house.closeOut(0));
+        Check.answers("2 asked less than 1", 0, house.position(2, 0));
+        Check.answers("and got nothing for it", 0, house.told(2, 1));
+        Check.answers("1 asked 0 for the other", 4, house.position(1, 1));
+        Check.answers("and got nothing for it", 0, house.told(1, 1));
     }
 
-    private static void decidesWhoTakesAndForWhat() {
-        MarginHouse house = houseWithDefaulter();
-        house.bid(1, 0, 3);
-        house.bid(2, 0, 2);
-        house.bid(3, 0, 4);
-        house.bid(1, 1, 1);
-        house.bid(2, 1, 6);
-        house.bid(3, 1, 6);
-        house.bid(3, 1, 5);
-        Check.answers("closeOut(0)", 0, house.closeOut(0));
-        Check.answers("2 asked least for the first", 4, house.position(2, 0));
-        Check.answers("and got it for each unit", 8, house.told(2, 1));
-        Check.answers("1 asked least for the second", 4, house.position(1, 1));
-        Check.answers("and got that for each unit", 4, house.told(1, 1));
-        Check.answers("from the defaulter", 18, house.told(0, 1));
+    private static void isOfEachMemberForEachInstrument() {
+        House house = Houses.full();
+        for (int i = 0; i <= 5; i++) {
+            house.trade(6, 7, i, 2, 101);
+        }
+        for (int m = 0; m <= 7; m++) {
+            for (int i = 0; i <= 5; i++) {
+                house.bid(m, i, m == 5 - i ? 10 + i : 100 + m);
+            }
+        }
+        Check.answers("6 is in default", 1, house.declare());
+        Check.answers("closeOut(6)", 0, house.closeOut(6));
+        for (int i = 0; i <= 5; i++) {
+            Check.answers("5 - i asked least for i", 2, house.position(5 - i, i));
+            Check.answers("7 asked more", -2, house.position(7, i));
+        }
+        // 12 by the trades, and 10 .. 15 for two units each
+        Check.bore("12 + 150 were missing", house, 70, 0, 92, 0, 0);
+    }
+
+    private static void isToldAnew() {
+        House house = Houses.withOneInDefault();
+        house.bid(1, 0, 5);
+        house.bid(2, 0, 6);
+        house.bid(1, 0, 7);
+        house.closeOut(0);
+        Check.answers("2 takes for 6", 24, house.told(2, 1));
+        Check.answers("1 asked more in the end", 0, house.position(1, 0));
     }
 
     private static void takesTheEdges() {
-        MarginHouse house = houseWithDefaulter();
-        for (int m = 1; m <= 3; m++) {
-            house.bid(m, 0, 1000000);
+        for (int bid : new int[] {0, 1, MILLION - 1, MILLION}) {
+            House house = Houses.withOneInDefault();
+            house.bid(1, 0, bid);
+            house.bid(2, 0, bid);
+            house.bid(1, 1, 0);
+            long missing = Math.max(0, 4L * bid - 50);
+            // 10 and then 20 and 30 are in the fund, and the one that takes can be called for the 20 that it gave
+            Check.answers("closeOut at " + bid, Math.max(0, missing - 80), house.closeOut(0));
+            Check.answers("the taker's cash at " + bid, 4L * bid - Math.min(20, Math.max(0, missing - 60)),
+                    house.told(1, 1));
         }
-        Check.answers("closeOut(0)", 4000000 - 30, house.closeOut(0));
-        Check.answers("the least number of equal bids", 4000000, house.told(1, 1));
     }
 
     private static void isFreeToThoseThatAreNotLive() {
-        MarginHouse house = houseWithDefaulter();
-        Check.nothing("a bid of one in default", () -> house.bid(0, 0, 1));
+        House house = Houses.withOneInDefault();
+        house.bid(0, 0, 1);
+        house.bid(0, 1, MILLION);
         house.closeOut(0);
-        Check.nothing("a bid of one that is out", () -> house.bid(0, 0, 1));
+        house.bid(0, 0, 1);
+        Check.told("bids of one that is not live", house, 0, 2, 50, 10);
     }
 
-    private static void refusesWrongOnes() {
-        MarginHouse house = houseWithDefaulter();
-        for (int wrong : new int[] {-1, 4, 8, Integer.MIN_VALUE, Integer.MAX_VALUE}) {
-            Check.argumentLeaves(house, "bid of member " + wrong, () -> house.bid(wrong, 0, 1));
+    private static void refusesOtherMembers() {
+        for (int wrong : Edges.noMember(3)) {
+            Twins.argument(Houses::withOneInDefault, "of " + wrong, house -> house.bid(wrong, 0, 1));
         }
-        for (int wrong : new int[] {-1, 2, 6, Integer.MIN_VALUE, Integer.MAX_VALUE}) {
-            Check.argumentLeaves(house, "bid for instrument " + wrong, () -> house.bid(1, wrong, 1));
+        for (int wrong : Edges.noMember(8)) {
+            Twins.argument(Houses::full, "of " + wrong, house -> house.bid(wrong, 5, MILLION));
         }
-        for (int wrong : new int[] {-1, 1000001, Integer.MIN_VALUE, Integer.MAX_VALUE}) {
-            Check.argumentLeaves(house, "bid " + wrong, () -> house.bid(1, 0, wrong));
+    }
+
+    private static void refusesOtherInstruments() {
+        for (int wrong : Edges.noInstrument(2)) {
+            Twins.argument(Houses::withOneInDefault, "for " + wrong, house -> house.bid(1, wrong, 1));
         }
-        Check.answers("closeOut after refused bids", 0, house.closeOut(0));
-        Check.answers("nothing was asked", 30, house.told(0, 1));
+        for (int wrong : Edges.noInstrument(6)) {
+            Twins.argument(Houses::full, "for " + wrong, house -> house.bid(7, wrong, MILLION));
+        }
+    }
+
+    private static House withBids() {
+        House house = Houses.withOneInDefault();
+        house.bid(1, 0, 1);
+        house.bid(2, 0, 2);
+        return house;
+    }
+
+    private static void refusesOtherBids() {
+        for (int wrong : Edges.outside(0, MILLION)) {
+            Twins.argument(BidTest::withBids, "the least one becoming " + wrong, house -> house.bid(1, 0, wrong));
+            Twins.argument(BidTest::withBids, "another becoming " + wrong, house -> house.bid(2, 0, wrong));
+        }
     }
 }

@@ -1,28 +1,60 @@
 /** Promise 12: called. */
 public final class CalledTest {
     public static void main(String[] args) {
-        MarginHouse house = Houses.withMembers(1000, 1000);
+        isWhatIsBelowTheMargin();
+        isWhatIsBelowZeroWithoutMargin();
+        isZeroForThoseThatAreNotLive();
+        readsAlone();
+        refusesOtherMembers();
+        Check.end();
+    }
+
+    private static void isWhatIsBelowTheMargin() {
+        House house = Houses.withMembers(1000, 1000);
         house.instrument(100, 0, 0);
         house.move(0, 0, -2);
         Check.answers("without positions", 0, house.called(0));
         house.trade(0, 1, 0, 5, 100);
-        Check.answers("without cash", 10, house.called(0));
+        Check.answers("by all of its margin", 10, house.called(0));
         house.deposit(0, 9);
-        Check.answers("one below", 1, house.called(0));
+        Check.answers("one below its margin", 1, house.called(0));
         house.deposit(0, 1);
-        Check.answers("cash at the margin", 0, house.called(0));
+        Check.answers("at its margin", 0, house.called(0));
         house.deposit(0, 1);
-        Check.answers("cash above the margin", 0, house.called(0));
+        Check.answers("one above its margin", 0, house.called(0));
         house.mark(0, 90);
-        Check.answers("cash below 0", 10 + 39, house.called(0));
-        Check.answers("it is no part of a call who has cash", 0, house.called(1));
-        house.declare();
-        Check.answers("in default", 0, house.called(0));
-        house.closeOut(0);
-        Check.answers("out", 0, house.called(0));
-        for (int wrong : new int[] {-1, 2, 8, Integer.MIN_VALUE, Integer.MAX_VALUE}) {
-            Check.argumentLeaves(house, "called(" + wrong + ")", () -> house.called(wrong));
+        Check.answers("by its margin and what is below 0", 10 + 39, house.called(0));
+        Check.answers("one without margin", 0, house.called(1));
+    }
+
+    private static void isWhatIsBelowZeroWithoutMargin() {
+        House house = Houses.withMembers(1000, 1000);
+        house.instrument(100, 0, 0);
+        house.trade(0, 1, 0, 5, 100);
+        Check.answers("at 0", 0, house.called(0));
+        house.trade(0, 1, 0, 1, 101);
+        Check.answers("at -1", 1, house.called(0));
+        Check.answers("at 1", 0, house.called(1));
+    }
+
+    private static void isZeroForThoseThatAreNotLive() {
+        Check.answers("live", 30, Houses.withOneCalled().called(0));
+        Check.answers("in default", 0, Houses.withOneInDefault().called(0));
+        Check.answers("out", 0, Houses.withOneOut().called(0));
+    }
+
+    private static void readsAlone() {
+        Twins.answers(Houses::withOneCalled, "called(0)", 30, house -> house.called(0));
+        Twins.answers(Houses::withOneInDefault, "called(0)", 0, house -> house.called(0));
+    }
+
+    private static void refusesOtherMembers() {
+        for (int wrong : Edges.noMember(3)) {
+            Twins.argument(Houses::withOneCalled, "called(" + wrong + ")", house -> house.called(wrong));
         }
-        Check.end();
+        for (int wrong : Edges.noMember(8)) {
+            Twins.argument(Houses::full, "called(" + wrong + ")", house -> house.called(wrong));
+        }
+        Twins.answers(Houses::full, "called(7)", 0, house -> house.called(7));
     }
 }

@@ -23,52 +23,24 @@ final class Check {
         }
     }
 
-    static void argument(String call, Runnable run) {
-        same(call, "IllegalArgumentException", thrownBy(run));
+    /** What the last closing out's layers bore. */
+    static void bore(String after, House house, long... due) {
+        for (int layer = 0; layer <= 4; layer++) {
+            answers(after + ": bore(" + layer + ")", due[layer], house.bore(layer));
+        }
     }
 
-    static void state(String call, Runnable run) {
-        same(call, "IllegalStateException", thrownBy(run));
-    }
-
-    static void nothing(String call, Runnable run) {
-        same(call, "nothing", thrownBy(run));
-    }
-
-    /** The call throws IllegalArgumentException and leaves all that the house tells as it was. */
-    static void argumentLeaves(MarginHouse house, String call, Runnable run) {
-        String before = Houses.seen(house);
-        argument(call, run);
-        same("after " + call, before, Houses.seen(house));
-    }
-
-    /** The call throws IllegalStateException and leaves all that the house tells as it was. */
-    static void stateLeaves(MarginHouse house, String call, Runnable run) {
-        String before = Houses.seen(house);
-        state(call, run);
-        same("after " + call, before, Houses.seen(house));
-    }
-
-    /** The call answers NONE and leaves all that the house tells as it was. */
-    static void noneLeaves(MarginHouse house, String call, java.util.function.LongSupplier run) {
-        String before = Houses.seen(house);
-        answers(call, -1, run.getAsLong());
-        same("after " + call, before, Houses.seen(house));
+    /** Where a member stands, its cash and its contribution. */
+    static void told(String after, House house, int member, long... due) {
+        for (int what = 0; what <= 2; what++) {
+            answers(after + ": told(" + member + ", " + what + ")", due[what], house.told(member, what));
+        }
     }
 
     static void end() {
         if (wrong != 0) {
             System.out.println(wrong + " checks failed");
             System.exit(1);
-        }
-    }
-
-    private static String thrownBy(Runnable run) {
-        try {
-            run.run();
-            return "nothing";
-        } catch (RuntimeException e) {
-            return e.getClass().getSimpleName();
         }
     }
 

@@ -2,44 +2,62 @@ import java.lang.reflect.Constructor;
 import java.lang.reflect.Field;
 import java.lang.reflect.Method;
 import java.lang.reflect.Modifier;
+import java.util.List;
 import java.util.TreeSet;
 
 /** The public face: what stands there, no more and no less. */
 public final class FaceTest {
-    private static final String[] METHODS = {
-        "int member(long)", "int instrument(int,int,int)", "long capital(long)", "void move(int,int,int)",
-        "void bid(int,int,int)", "long deposit(int,long)", "long withdraw(int,long)",
-        "int trade(int,int,int,int,int)", "int mark(int,int)", "long margin(int)", "long called(int)",
-        "int declare()", "long closeOut(int)", "long told(int,int)", "int position(int,int)", "long bore(int)",
-        "long all(int)"
-    };
+    private static final String ARGUMENT = " throws IllegalArgumentException";
+    private static final String STATE = ARGUMENT + ", IllegalStateException";
+    private static final List<String> METHODS = List.of(
+            "int member(long)" + ARGUMENT, "int instrument(int, int, int)" + ARGUMENT,
+            "long capital(long)" + ARGUMENT, "void move(int, int, int)" + ARGUMENT,
+            "void bid(int, int, int)" + ARGUMENT, "long deposit(int, long)" + STATE,
+            "long withdraw(int, long)" + STATE, "int trade(int, int, int, int, int)" + STATE,
+            "int mark(int, int)" + ARGUMENT, "long margin(int)" + ARGUMENT, "long called(int)" + ARGUMENT,
+            "int declare()", "long closeOut(int)" + STATE, "long told(int, int)" + ARGUMENT,
+            "int position(int, int)" + ARGUMENT, "long bore(int)" + ARGUMENT, "long all(int)" + ARGUMENT);
 
     public static void main(String[] args) throws ReflectiveOperationException {
-        Check.answers("NONE", -1, MarginHouse.NONE);
-        Check.holds("the class is public and final",
-                (MarginHouse.class.getModifiers() & (Modifier.PUBLIC | Modifier.FINAL))
-                        == (Modifier.PUBLIC | Modifier.FINAL));
+        classIsPublicAndFinal();
+        noneIsAConstant();
         methodsAreTheDocuments();
+        noPrivateMethodBearsAPublicName();
         fieldsAreTheDocuments();
         constructorsAreTheDocuments();
         Check.end();
     }
 
+    private static void classIsPublicAndFinal() {
+        int modifiers = MarginHouse.class.getModifiers();
+        Check.holds("the class is public and final", Modifier.isPublic(modifiers) && Modifier.isFinal(modifiers));
+    }
+
+    private static void noneIsAConstant() throws ReflectiveOperationException {
+        Field none = MarginHouse.class.getDeclaredField("NONE");
+        Check.same("NONE", "public static final int", Modifier.toString(none.getModifiers()) + " " + none.getType());
+        Check.answers("NONE", -1, MarginHouse.NONE);
+    }
+
     private static void methodsAreTheDocuments() {
-        TreeSet<String> due = new TreeSet<>(java.util.List.of(METHODS));
         TreeSet<String> got = new TreeSet<>();
-        TreeSet<String> names = new TreeSet<>();
         for (Method method : MarginHouse.class.getDeclaredMethods()) {
             if (!Modifier.isPrivate(method.getModifiers())) {
                 got.add(told(method));
-                names.add(method.getName());
+                Check.same(method.getName(), "public", Modifier.toString(method.getModifiers()));
             }
         }
-        Check.same("methods that are not private", due.toString(), got.toString());
+        Check.same("methods that are not private", new TreeSet<>(METHODS).toString(), got.toString());
+    }
+
+    private static void noPrivateMethodBearsAPublicName() {
+        TreeSet<String> names = new TreeSet<>();
+        for (Method method : MarginHouse.class.getMethods()) {
+            names.add(method.getName());
+        }
         for (Method method : MarginHouse.class.getDeclaredMethods()) {
-            if (Modifier.isPrivate(method.getModifiers())) {
-                Check.holds("a private method bears a public name: " + method, !names.contains(method.getName()));
-            }
+            Check.holds("a private method bears a public name: " + method,
+                    !Modifier.isPrivate(method.getModifiers()) || !names.contains(method.getName()));
         }
     }
 
@@ -56,15 +74,21 @@ public final class FaceTest {
         Constructor<?>[] made = MarginHouse.class.getDeclaredConstructors();
         Check.answers("how many constructors", 1, made.length);
         Check.answers("parameters of the constructor", 0, made[0].getParameterCount());
+        Check.answers("what the constructor throws", 0, made[0].getExceptionTypes().length);
         Check.holds("the constructor is public", Modifier.isPublic(made[0].getModifiers()));
     }
 
     private static String told(Method method) {
+        String thrown = names(method.getExceptionTypes());
+        return method.getReturnType().getSimpleName() + " " + method.getName() + "("
+                + names(method.getParameterTypes()) + ")" + (thrown.isEmpty() ? "" : " throws " + thrown);
+    }
+
+    private static String names(Class<?>[] types) {
         StringBuilder text = new StringBuilder();
-        text.append(method.getReturnType().getSimpleName()).append(' ').append(method.getName()).append('(');
-        for (int p = 0; p < method.getParameterCount(); p++) {
-            text.append(p == 0 ? "" : ",").append(method.getParameterTypes()[p].getSimpleName());
+        for (Class<?> type : types) {
+            text.append(text.length() == 0 ? "" : ", ").append(type.getSimpleName());
         }
-        return text.append(')').toString();
+        return text.toString();
     }
 }

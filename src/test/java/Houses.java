@@ -1,62 +1,71 @@
-/** Houses that tests begin with, and what a house tells. */
+/** Houses that tests begin with. */
 final class Houses {
-    static final long MOST_PAID = 1_000_000_000_000L;
-
     private Houses() {
     }
 
-    static MarginHouse withMembers(long... contributions) {
-        MarginHouse house = new MarginHouse();
+    static House withMembers(long... contributions) {
+        House house = new House();
         for (long contribution : contributions) {
             house.member(contribution);
         }
         return house;
     }
 
+    /** Members 0 to 7, who contributed 10, 20 .. 80. */
+    static House eightMembers() {
+        return withMembers(10, 20, 30, 40, 50, 60, 70, 80);
+    }
+
+    /** Instruments 0 to 5 at 100, without extra up to the greatest position. */
+    static void addSixInstruments(House house) {
+        for (int i = 0; i <= 5; i++) {
+            house.instrument(100, 1_000_000, 0);
+        }
+    }
+
+    static House sixInstruments() {
+        House house = new House();
+        addSixInstruments(house);
+        return house;
+    }
+
+    static House full() {
+        House house = eightMembers();
+        addSixInstruments(house);
+        return house;
+    }
+
+    /**
+     * Three members, who contributed 10, 20 and 30, and two instruments at 100; 0 has bought 4 of either from 2, and
+     * has 50 in cash where its margin is 80.
+     */
+    static House withOneCalled() {
+        House house = withMembers(10, 20, 30);
+        house.instrument(100, 1_000_000, 0);
+        house.instrument(100, 1_000_000, 0);
+        house.deposit(0, 50);
+        house.trade(0, 2, 0, 4, 100);
+        house.trade(0, 2, 1, 4, 100);
+        house.move(0, 0, -20);
+        return house;
+    }
+
+    static House withOneInDefault() {
+        House house = withOneCalled();
+        house.declare();
+        return house;
+    }
+
+    static House withOneOut() {
+        House house = withOneInDefault();
+        house.closeOut(0);
+        return house;
+    }
+
     /** Trades of at most 100000 units each until so many have gone from seller to buyer, all at the price given. */
-    static void tradeMany(MarginHouse house, int buyer, int seller, int instrument, int units, int price) {
-        for (int left = units; left > 0; left -= 100_000) {
-            house.trade(buyer, seller, instrument, Math.min(left, 100_000), price);
-        }
-    }
-
-    /** All that the house tells of itself and of its members, as one text. */
-    static String seen(MarginHouse house) {
-        StringBuilder text = new StringBuilder();
-        for (int what = 0; what <= 5; what++) {
-            text.append("all").append(what).append('=').append(house.all(what)).append(' ');
-        }
-        for (int layer = 0; layer <= 4; layer++) {
-            text.append("bore").append(layer).append('=').append(house.bore(layer)).append(' ');
-        }
-        for (int m = 0; m < 8 && isMember(house, m); m++) {
-            text.append("| member").append(m).append(' ');
-            for (int what = 0; what <= 2; what++) {
-                text.append(house.told(m, what)).append(' ');
-            }
-            text.append("margin ").append(house.margin(m)).append(" called ").append(house.called(m)).append(" units");
-            for (int i = 0; i < 6 && isInstrument(house, i); i++) {
-                text.append(' ').append(house.position(m, i));
-            }
-        }
-        return text.toString();
-    }
-
-    private static boolean isMember(MarginHouse house, int member) {
-        try {
-            house.margin(member);
-            return true;
-        } catch (IllegalArgumentException e) {
-            return false;
-        }
-    }
-
-    private static boolean isInstrument(MarginHouse house, int instrument) {
-        try {
-            house.position(0, instrument);
-            return true;
-        } catch (IllegalArgumentException e) {
-            return false;
+    static void tradeMany(House house, int buyer, int seller, int instrument, int units, int price) {
+        for (int left = units; left > 0; left -= Edges.MOST_TRADED) {
+            house.trade(buyer, seller, instrument, Math.min(left, Edges.MOST_TRADED), price);
         }
     }
 }

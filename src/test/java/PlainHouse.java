@@ -141,7 +141,8 @@ final class PlainHouse {
         }
         List<Person> live = people.stream().filter(p -> p.state == 0).toList();
         for (int i = 0; i < goods.size(); i++) {
-            if (gone.units[i] != 0 && (live.isEmpty() || Math.abs(cheapest(live, i).units[i] + gone.units[i]) > 1_000_000)) {
+            if (gone.units[i] != 0
+                    && (live.isEmpty() || Math.abs(cheapest(live, i).units[i] + gone.units[i]) > 1_000_000)) {
                 return -1;
             }
         }

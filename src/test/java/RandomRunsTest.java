@@ -4,12 +4,12 @@ import java.util.function.LongSupplier;
 /** Runs of some 500 calls, the same ones each time, on MarginHouse and on PlainHouse: all answers must be the same. */
 public final class RandomRunsTest {
     private static final int RUNS = 3000;
-    private static final long T12 = Houses.MOST_PAID;
+    private static final long T12 = Edges.MOST_PAID;
 
     private final int seed;
     private final Random random;
     private final int greatest;
-    private final MarginHouse house = new MarginHouse();
+    private final House house = new House();
     private final PlainHouse plain = new PlainHouse();
     private int calls = 0;
 

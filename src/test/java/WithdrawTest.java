@@ -2,57 +2,103 @@
 public final class WithdrawTest {
     public static void main(String[] args) {
         takesOutDownToTheMargin();
-        neverBelowZero();
-        refusesWrongOnes();
+        takesOutDownToZero();
+        answersNoneWhenItIsBelowAlready();
+        takesFromOneToTheMost();
+        refusesOtherMembers();
+        refusesOtherAmounts();
         refusesThoseThatAreNotLive();
         Check.end();
     }
 
-    private static void takesOutDownToTheMargin() {
-        MarginHouse house = Houses.withMembers(0, 0);
+    /** Member 0 has 100 in cash and a margin of 38, by a move and by extra; member 1 sold to it. */
+    private static House withMargin() {
+        House house = Houses.withMembers(1, 2);
         house.instrument(10, 2, 1);
         house.move(4, 0, -3);
         house.deposit(0, 100);
         house.trade(0, 1, 0, 10, 10);
-        Check.answers("margin", 38, house.margin(0));
-        Check.noneLeaves(house, "one more than can go", () -> house.withdraw(0, 63));
-        Check.answers("withdraw(0, 2)", 98, house.withdraw(0, 2));
-        Check.answers("down to the margin", 38, house.withdraw(0, 60));
-        Check.noneLeaves(house, "below the margin", () -> house.withdraw(0, 1));
-        Check.answers("its cash", 38, house.told(0, 1));
+        return house;
     }
 
-    private static void neverBelowZero() {
-        MarginHouse house = Houses.withMembers(9);
-        house.deposit(0, Houses.MOST_PAID);
-        Check.answers("all of it", 0, house.withdraw(0, Houses.MOST_PAID));
-        Check.noneLeaves(house, "of nothing", () -> house.withdraw(0, 1));
-        Check.noneLeaves(house, "very much of nothing", () -> house.withdraw(0, Houses.MOST_PAID));
+    private static void takesOutDownToTheMargin() {
+        Check.answers("margin", 38, withMargin().margin(0));
+        Check.answers("one above the margin", 39, withMargin().withdraw(0, 61));
+        Check.answers("to the margin", 38, withMargin().withdraw(0, 62));
+        Twins.none(WithdrawTest::withMargin, "one below the margin", house -> house.withdraw(0, 63));
+        Twins.none(WithdrawTest::withMargin, "all cash", house -> house.withdraw(0, 100));
+        Twins.none(WithdrawTest::withMargin, "the most", house -> house.withdraw(0, Edges.MOST_PAID));
+        House house = withMargin();
+        house.withdraw(0, 62);
+        Check.told("at the margin", house, 0, 0, 38, 1);
+        Check.answers("nothing more", -1, house.withdraw(0, 1));
+        Check.told("at the margin", house, 0, 0, 38, 1);
+        Check.answers("not called", 0, house.called(0));
     }
 
-    private static void refusesWrongOnes() {
-        MarginHouse house = Houses.withMembers(5, 6);
-        house.deposit(0, 100);
-        for (int wrong : new int[] {-1, 2, 8, Integer.MIN_VALUE, Integer.MAX_VALUE}) {
-            Check.argumentLeaves(house, "withdraw of member " + wrong, () -> house.withdraw(wrong, 1));
+    private static House withCashAlone() {
+        House house = Houses.withMembers(9, 9);
+        house.deposit(0, 5);
+        return house;
+    }
+
+    private static void takesOutDownToZero() {
+        Check.answers("to 1", 1, withCashAlone().withdraw(0, 4));
+        Check.answers("to 0", 0, withCashAlone().withdraw(0, 5));
+        Twins.none(WithdrawTest::withCashAlone, "to -1, as its contribution is no cash",
+                house -> house.withdraw(0, 6));
+        Twins.none(WithdrawTest::withCashAlone, "of nothing", house -> house.withdraw(1, 1));
+    }
+
+    private static void answersNoneWhenItIsBelowAlready() {
+        Twins.none(Houses::withOneCalled, "below its margin", house -> house.withdraw(0, 1));
+        Twins.none(WithdrawTest::withCashBelowZero, "below 0", house -> house.withdraw(0, 1));
+        Check.answers("of another one", 8, withCashBelowZero().withdraw(1, 1));
+    }
+
+    private static House withCashBelowZero() {
+        House house = Houses.withMembers(5, 6);
+        house.instrument(0, 0, 0);
+        house.trade(0, 1, 0, 1, 9);
+        return house;
+    }
+
+    private static void takesFromOneToTheMost() {
+        for (long amount : new long[] {1, 2, Edges.MOST_PAID - 1, Edges.MOST_PAID}) {
+            House house = Houses.eightMembers();
+            house.deposit(0, Edges.MOST_PAID);
+            house.deposit(7, Edges.MOST_PAID);
+            Check.answers("withdraw of " + amount, Edges.MOST_PAID - amount, house.withdraw(0, amount));
+            Check.answers("of the last member", Edges.MOST_PAID - amount, house.withdraw(7, amount));
+            Check.answers("all cash", 2 * (Edges.MOST_PAID - amount), house.all(2));
         }
-        for (long wrong : new long[] {-1, 0, Houses.MOST_PAID + 1, Long.MIN_VALUE, Long.MAX_VALUE}) {
-            Check.argumentLeaves(house, "withdraw of " + wrong, () -> house.withdraw(0, wrong));
+    }
+
+    private static void refusesOtherMembers() {
+        for (int wrong : Edges.noMember(2)) {
+            Twins.argument(WithdrawTest::withMargin, "withdraw of " + wrong, house -> house.withdraw(wrong, 1));
         }
+        for (int wrong : Edges.noMember(8)) {
+            Twins.argument(Houses::full, "withdraw of " + wrong, house -> house.withdraw(wrong, Edges.MOST_PAID));
+        }
+    }
+
+    private static void refusesOtherAmounts() {
+        for (long wrong : Edges.outside(1, Edges.MOST_PAID)) {
+            Twins.argument(WithdrawTest::withMargin, "withdraw of " + wrong, house -> house.withdraw(0, wrong));
+            Twins.argument(Houses::withOneCalled, "ahead of NONE, of " + wrong, house -> house.withdraw(0, wrong));
+        }
+        Twins.argument(WithdrawTest::withMargin, "withdraw of -1", house -> house.withdraw(0, -1));
     }
 
     private static void refusesThoseThatAreNotLive() {
-        MarginHouse house = Houses.withMembers(5, 6);
-        house.instrument(10, 0, 0);
-        house.move(0, 0, -10);
-        house.deposit(0, 9);
-        house.trade(0, 1, 0, 1, 10);
-        house.declare();
-        Check.stateLeaves(house, "withdraw of one in default", () -> house.withdraw(0, 1));
-        Check.stateLeaves(house, "that would be refused anyway", () -> house.withdraw(0, 10));
-        Check.argument("and a wrong amount", () -> house.withdraw(0, 0));
-        house.closeOut(0);
-        Check.answers("it kept its cash", 9, house.told(0, 1));
-        Check.stateLeaves(house, "withdraw of one that is out", () -> house.withdraw(0, 1));
+        for (long amount : new long[] {1, 50, 51, Edges.MOST_PAID}) {
+            Twins.state(Houses::withOneInDefault, "one in default takes " + amount, house -> house.withdraw(0, amount));
+            Twins.state(Houses::withOneOut, "one that is out takes " + amount, house -> house.withdraw(0, amount));
+        }
+        for (long wrong : Edges.outside(1, Edges.MOST_PAID)) {
+            Twins.argument(Houses::withOneInDefault, "in default and " + wrong, house -> house.withdraw(0, wrong));
+            Twins.argument(Houses::withOneOut, "out and " + wrong, house -> house.withdraw(0, wrong));
+        }
     }
 }
