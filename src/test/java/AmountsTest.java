@@ -134,8 +134,15 @@ public final class AmountsTest {
         return house;
     }
 
+    /** The loss would not be beyond the limit, but the defaulter's cash would. */
+    private static House poorDefaulterAndCapital() {
+        House house = poorDefaulter(1);
+        house.capital(1);
+        return house;
+    }
+
     private static void cashOfTheDefaulterStopsAtTheLimit() {
-        Twins.none(() -> poorDefaulter(1), "closeOut(0)", house -> house.closeOut(0));
+        Twins.none(AmountsTest::poorDefaulterAndCapital, "closeOut(0)", house -> house.closeOut(0));
         House house = poorDefaulter(0);
         Check.answers("closeOut(0)", Edges.MOST_HELD, house.closeOut(0));
         Check.bore("all that can be missing", house, 0, 0, 0, 0, Edges.MOST_HELD);

@@ -11,7 +11,9 @@ public final class SharesTest {
         weightsOfZeroBearNothing();
         oneBearsAll();
         onlyLiveOnesBear();
+        onlyLiveOnesAreCalled();
         membersAheadOfTheDefaulterBear();
+        allAroundTheDefaulterBear();
         productsBeyondALong();
         callsAreSharedByWhatCanBeCalled();
         Check.end();
@@ -165,6 +167,27 @@ public final class SharesTest {
         Check.told("the only one with a contribution", house, 4, 0, 0, 3);
     }
 
+    private static void onlyLiveOnesAreCalled() {
+        House house = missing(100, 9, 9, 9);
+        house.instrument(0, 0, 0);
+        house.move(0, 1, -10);
+        for (int m = 2; m <= 4; m++) {
+            house.deposit(m, 5);
+        }
+        house.trade(2, 1, 1, 1, 0);
+        Check.answers("2 is in default", 1, house.declare());
+        house.trade(3, 1, 1, 1, 0);
+        Check.answers("3 is in default", 1, house.declare());
+        Check.answers("closeOut(2)", 0, house.closeOut(2));
+        Check.told("out, with cash", house, 2, 2, 5, 9);
+        house.deposit(1, 1000);
+        Check.answers("closeOut(0)", 100 - 9 - 5, house.closeOut(0));
+        Check.bore("4 alone gave and was called", house, 0, 0, 9, 5, 86);
+        Check.told("one that is out", house, 2, 2, 5, 9);
+        Check.told("one in default", house, 3, 1, 5, 9);
+        Check.told("the one that is live", house, 4, 0, 0, 0);
+    }
+
     private static void membersAheadOfTheDefaulterBear() {
         House house = Houses.withMembers(7, 8, 0, 0);
         house.instrument(0, 0, 0);
@@ -184,6 +207,30 @@ public final class SharesTest {
         Check.bore("20 by 5 and 6", house, 0, 0, 11, 9, 0);
         Check.told("20 by 5 and 6", house, 0, 0, 5 - 4, 0);
         Check.told("20 by 5 and 6", house, 1, 0, 6 - 5, 0);
+    }
+
+    /** Each of the eight in turn is closed out, and the others, who have less cash than they gave, bear it. */
+    private static void allAroundTheDefaulterBear() {
+        for (int defaulter = 0; defaulter <= 7; defaulter++) {
+            House house = Houses.eightMembers();
+            house.instrument(0, 1000000, 0);
+            int winner = defaulter == 7 ? 6 : 7;
+            for (int m = 0; m <= 7; m++) {
+                house.deposit(m, m + 1);
+            }
+            house.trade(defaulter, winner, 0, 1, 1000 + defaulter + 1);
+            house.declare();
+            // the winner has much cash and is called for what it gave, the others for all they have
+            long given = 360 - 10 * (defaulter + 1);
+            long called = 36 - (defaulter + 1) - (winner + 1) + 10 * (winner + 1);
+            long loss = 1000 - 360 - called;
+            Check.answers("closeOut(" + defaulter + ")", loss, house.closeOut(defaulter));
+            Check.bore("closeOut(" + defaulter + ")", house, 10 * (defaulter + 1), 0, given, called, loss);
+            for (int m = 0; m <= 7; m++) {
+                long cash = m == winner ? 1000 + defaulter + 1 + m + 1 - 10 * (m + 1) : 0;
+                Check.told("closeOut(" + defaulter + ")", house, m, m == defaulter ? 2 : 0, cash, 0);
+            }
+        }
     }
 
     private static void productsBeyondALong() {
